@@ -152,6 +152,7 @@ public final class GlossedBooksPromises {
     due("20 glosses", book(x, "[1" + words(20, "|a2") + "]"), 6);
     due("depth 4", book(x, "[1|a[1|a[1|a[1|a1]]]]"), 7);
     due("depth", x.about(7, 2), 4);
+    due("printed", printed(x, 7), "[1|a[1|a[1|a[1|a1]]]]");
     due("one more", book(x, "1"), 8);
     due("one more", book(x, "2"), 9);
     due("a fault ahead", x.fault(), NONE);
@@ -249,6 +250,7 @@ public final class GlossedBooksPromises {
     handFault("100", 1, 0);
     handFault("skipp 1 1;", 1, 0);
     handFault("ski 1 1;", 1, 0);
+    handFault("skipz 1 1;", 1, 0);
     handFault("sk ip 1 1;", 1, 0);
     handFault("Skip 1 1;", 1, 0);
     handFault("skipS", 1, 4);
@@ -329,6 +331,7 @@ public final class GlossedBooksPromises {
     due("tail of a lemma", copied("1[2 1 3|a9]4", "skip 5 1;"), "1[3|a9]4 {1:1/1 }");
     due("head stays", copied("[5 1|a9]3[1 6|b8]", "skip 5 1;"), "[5 1|a9][6|b8] {1:1/1 }");
     due("middle of a lemma", copied("[1 2 1 4|a9]", "skip 5 1;"), "[1 4|a9] {1:1/1 }");
+    due("rows stay", copied("1 2 1[3|a4 5[6|b7]]", "skip 5 1;"), "1[3|a4 5[6|b7]] {1:1/1 }");
     due("a span goes", copied("1[2|a3[4|b5]|b6]1[7|a8]", "skip 5 1;"), "1[7|a8] {1:1/1 }");
     due("those gone are no chance", copied("1[2|a3[4|b5]|b6]1[7|a8]", "skip 5 1;drop 1;"), "1 7 {1:1/1 4:1/1 }");
   }
@@ -346,6 +349,7 @@ public final class GlossedBooksPromises {
     due("ahead", copied("1[2 3|a4 5[6|b7]]8", "into ahead 1;"), "1 4 5 6 2 3 8 {3:1/1 }");
     due("ahead, others stay", copied("1[2|a4|b5]8[9|b1]", "into ahead 1;"), "1 4[2|b5]8[9|b1] {3:1/1 }");
     due("behind", copied("1[2 3|a4 5|b9]8[9|b1]", "into behind 1;"), "1[2 3|b9]4 5 8[9|b1] {3:1/1 }");
+    due("ahead of all", copied("[1|a2 3]4", "into ahead 1;"), "2 3 1 4 {3:1/1 }");
     due("two behind", copied("1[2|a4|a5]8", "into behind 1;"), "1 2 5 4 8 {3:2/2 }");
     due("two ahead", copied("1[2|a4|a5]8", "into ahead 1;"), "1 4 5 2 8 {3:2/2 }");
     due("instead", copied("1[2 3|a4]8[9|b1]", "into instead 1;"), "1 4 8[9|b1] {3:1/1 }");
@@ -541,6 +545,10 @@ public final class GlossedBooksPromises {
     due("beside", x.beside(0, 1, 2), OUTSIDE);
     due("beside", x.beside(0, 1, -1), OUTSIDE);
     due("beside", x.beside(1, 1, 39), 39);
+    book(x, words(39, "4") + " 3");
+    due("40 beside 40", x.distance(1, 2), 39);
+    due("beside", x.beside(1, 2, 38), 38);
+    due("beside", x.beside(1, 2, 39), 39);
   }
 
   private static void slips(String a, String b, int want) {
@@ -657,6 +665,11 @@ public final class GlossedBooksPromises {
     due("NONE first", y.group(0, 30, 0), 6);
     due("then 0", y.group(0, 30, 1), 24);
     due("how many", y.group(0, 30, NONE), 2);
+    book(y, "1 63");
+    book(y, "1 63");
+    book(y, "1 63");
+    due("63 last", y.group(0, 254, 2), 32 + 64 + 128);
+    due("most", y.most(0, 254, 1, 0), 63);
   }
 
   private static void trees() {
@@ -732,7 +745,22 @@ public final class GlossedBooksPromises {
     due("round", x.round(1), 1L << 63);
   }
 
+  /** The example of README.md. */
+  private static void readme() {
+    GlossedBooks books = new GlossedBooks();
+    due("feed", books.feed(7, 0x315B327C61335DL), 7);
+    due("book", books.book(), 0);
+    due("feed", books.feed(8, 0x696E746F20616865L), 8);
+    due("feed", books.feed(5, 0x616420313BL), 13);
+    due("hand", books.hand(0), 1);
+    due("copy", books.copy(0, 0), 1);
+    due("print", printed(books, 1), "1 3 2");
+    due("distance", books.distance(0, 1), 1);
+    due("slipped", books.slipped(0, 1), 1);
+  }
+
   public static void main(String[] args) {
+    readme();
     newObject();
     feed();
     book();
