@@ -1104,6 +1104,8 @@ public final class GlossedBooksAgainstModel {
   // ---- random runs
 
   private static final int RUNS = 400;
+
+  /** Answers behind the 512th call are free; this class goes on answering, and longer runs find more. */
   private static final int CALLS = 900;
 
   private final Random random;

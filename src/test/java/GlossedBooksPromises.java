@@ -451,10 +451,13 @@ public final class GlossedBooksPromises {
     due("print", x.print(0, Integer.MIN_VALUE), NONE);
     due("print", x.print(1, 0), UNKNOWN);
     hand(x, 0, "for 1 63 1;");
-    book(x, "[1" + words(20, "|b1 1 1 1 1").replace("1 |", "1|") + "]" + words(39, "1"));
+    String text = "[1" + "|b1 1 1 1 1".repeat(20) + "]" + words(39, "1");
+    book(x, text);
     x.copy(1, 0);
     due("a long one", x.print(2, NONE), 4 + 20 * 16 + 39 * 3 - 1);
-    due("a long one", printed(x, 2), printed(x, 1).replace("1", "63"));
+    for (int i : new int[] {0, 1, 2, 3, 300, 322, 323, 324, 325, 438, 439}) {
+      due("a long one", x.print(2, i), text.replace("1", "63").charAt(i));
+    }
     due("word", x.word(2, 39), 63);
     due("word", x.word(2, 40), NONE);
     due("word", x.word(2, -1), NONE);
