@@ -1040,6 +1040,13 @@ public final class GlossedBooksSentences {
     due("39 and 40", x.distance(2, 0), 1);
     due("every second", x.distance(3, 0), 20);
     due("every second", x.distance(3, 1), 20);
+    x = library("50" + between(39), between(39) + " 51");
+    due("the first of 40 LEFT, the last PUT", x.distance(0, 1), 2);
+    due("the first of 40 PUT, the last LEFT", x.distance(1, 0), 2);
+    due("the first LEFT", x.beside(0, 1, 0), NONE);
+    due("the 40th", x.beside(0, 1, 39), 38);
+    due("the 39th", x.beside(1, 0, 38), 39);
+    due("the 40th LEFT", x.beside(1, 0, 39), NONE);
   }
 
   private static void firstOfLikeOnes() {
