@@ -680,8 +680,9 @@ public final class GlossedBooks {
       text.takeFrom(other.text);
       for (int g = 0; g < other.glossCount; g++) {
         Gloss gloss = other.glossAt(g);
-        if (gloss != null && g < glosses.length) {
-          glosses[g].takeFrom(gloss);
+        Gloss place = g < glosses.length ? glosses[g] : null;
+        if (gloss != null && place != null) {
+          place.takeFrom(gloss);
           glossCount = g + 1;
         }
       }
@@ -693,10 +694,10 @@ public final class GlossedBooks {
 
     /** A new gloss with an empty row: its number. */
     int addGloss(int host, int first, int last) {
-      if (glossCount < 0 || glossCount >= glosses.length) {
+      Gloss gloss = glossCount >= 0 && glossCount < glosses.length ? glosses[glossCount] : null;
+      if (gloss == null) {
         return NONE;
       }
-      Gloss gloss = glosses[glossCount];
       gloss.row.clear();
       gloss.kind = ABOVE;
       gloss.host = host;

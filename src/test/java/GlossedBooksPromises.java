@@ -748,8 +748,8 @@ public final class GlossedBooksPromises {
     due("round", x.round(1), 1L << 63);
   }
 
-  /** The example of README.md. */
-  private static void readme() {
+  /** A book told, copied with a gloss that slips in, and held against its copy. */
+  private static void aFirstRun() {
     GlossedBooks books = new GlossedBooks();
     due("feed", books.feed(7, 0x315B327C61335DL), 7);
     due("book", books.book(), 0);
@@ -763,7 +763,7 @@ public final class GlossedBooksPromises {
   }
 
   public static void main(String[] args) {
-    readme();
+    aFirstRun();
     newObject();
     feed();
     book();

@@ -30,7 +30,9 @@ public final class GlossedBooksRules {
   private static final String[] RULED_OUT = {
     "\\bthrows?\\b", "\\btry\\b", "\\bcatch\\b", "\\bsynchronized\\b", "\\bassert\\b", "\\bimport\\b",
     "\\bpackage\\b", "->", "::", "\\bprotected\\b", "\\bhashCode\\b", "\\btoString\\b", "\\bvar\\b",
-    "\\bstatic\\s*\\{", "\\bwhile\\s*\\(\\s*true", "\\bSystem\\.(out|err|exit|nano|current)", "\\bRandom\\b"
+    "\\bstatic\\s*\\{", "\\bwhile\\s*\\(\\s*true", "\\bSystem\\.(out|err|exit|nano|current)", "\\bRandom\\b",
+    // An element of an array is named and tested against null before something is called on it.
+    "\\][.](?!length\\b)"
   };
 
   private static int wrong = 0;
